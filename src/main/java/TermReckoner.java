@@ -269,8 +269,8 @@ public final class TermReckoner {
             return NOT_FIT;
         }
         reckoning.reckon(file, false);
-        long given = (long) order.given + days;
-        if (given < 0 || (days > 0 && given > reckoning.takenUpTo(order, place, today))) {
+        int mostDays = reckoning.takenUpTo(order, place, today) - order.given;
+        if (days < -order.given || (days > 0 && days > mostDays)) {
             return OUT_OF_BOUNDS;
         }
         Entry entry = new Entry(today, CALL_BACK, person, place);
