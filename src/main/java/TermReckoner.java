@@ -21,6 +21,7 @@ public final class TermReckoner {
     private static final int CHECKED_DAYS = 32;
     private static final int GRANT_PART = 500;
 
+    // What a PLACE has.
     private static final int NOTHING = 0;
     private static final int LETTER = 1;
     private static final int TERM = 2;
@@ -31,11 +32,13 @@ public final class TermReckoner {
     private static final int CREDIT = 7;
     private static final int QUASH = 8;
 
+    // What a MONTH is: as at first, a ROW of bytes or shorts, or TORN.
     private static final int PLAIN = 0;
     private static final int BYTES = 1;
     private static final int SHORTS = 2;
     private static final int TORN = 3;
 
+    // The calls that tell something, as image() numbers them.
     private static final int CALL_LETTER = 0;
     private static final int CALL_TERM = 1;
     private static final int CALL_WAITS = 2;
@@ -50,9 +53,10 @@ public final class TermReckoner {
     private static final int CALL_GRANT = 11;
     private static final int CALL_RECALL = 12;
 
+    // STATUS.
     private static final int TOLD = 0;
     private static final int NOT_THERE = 1;
-    private static final int TAKEN_PLACE = 2;
+    private static final int HAS_SOMETHING = 2;
     private static final int OUT_OF_BOUNDS = 3;
     private static final int IN_A_RING = 4;
     private static final int NOT_FIT = 5;
@@ -60,6 +64,7 @@ public final class TermReckoner {
     private static final int NO_ROOM = 7;
     private static final int NOT_DUE = 8;
 
+    // REASONS.
     private static final int COUNTS_AS_HELD = 0;
     private static final int COUNTS_BY_CREDIT = 1;
     private static final int NOT_BEGUN = 2;
@@ -69,6 +74,7 @@ public final class TermReckoner {
     private static final int IS_QUASHED = 6;
     private static final int NO_ORDER = 7;
 
+    /** check() has no ORDER to check; NONE says there that all is right. */
     private static final int CANNOT_CHECK = -2;
 
     private final Entry[] log = new Entry[ENTRIES];
@@ -552,7 +558,7 @@ public final class TermReckoner {
         return k < MONTH_DAYS ? WHOLE & (WHOLE << k) : 0;
     }
 
-    /** The days of a month up to its day k (with it), as bits. */
+    /** The days of a month up to its day k (and with it), as bits. */
     private static int bitsUpTo(int k) {
         if (k < 0) {
             return 0;
@@ -578,7 +584,7 @@ public final class TermReckoner {
         if (target == null) {
             return NOT_THERE;
         }
-        return target.kind == NOTHING ? TOLD : TAKEN_PLACE;
+        return target.kind == NOTHING ? TOLD : HAS_SOMETHING;
     }
 
     private int tell(Entry entry) {
@@ -973,7 +979,7 @@ public final class TermReckoner {
             row = 0;
         }
 
-        /** TAKEN when the row that goes on is longer by so many days. */
+        /** TAKEN, if the row that goes on were longer by so many days. */
         int takenWith(int days) {
             return every > 0 ? Math.min(mostTaken, closed + (row + days) / every) : 0;
         }
@@ -1223,7 +1229,7 @@ public final class TermReckoner {
     private static final class Ring {
         final int[] places = new int[PLACES];
         int size = 0;
-        /** For each PLACE those that its ORDER names and that have ORDERS that RUN. */
+        /** For each PLACE those that its ORDER names, if that RUNS. */
         private final int[] next = new int[PLACES];
         /** The PLACES from which so many steps can lead to the first one. */
         private final int[] leads = new int[PLACES + 1];
@@ -1252,19 +1258,13 @@ public final class TermReckoner {
             return false;
         }
 
+        /** What names a PLACE without such an ORDER needs no care: from there no step leads on. */
         private void findNext(File file, int place, int set) {
-            int running = 1 << place;
             for (int i = 0; i < PLACES; i++) {
                 Place order = file.at(i);
                 next[i] = order != null && order.runs() ? order.set : 0;
-                if (order != null && order.runs()) {
-                    running |= 1 << i;
-                }
             }
             next[place] = set;
-            for (int i = 0; i < PLACES; i++) {
-                next[i] &= running;
-            }
         }
 
         /** All RINGS lead through the new ORDER: the steps of the shortest way back to it; 0 without one. */

@@ -242,6 +242,11 @@ public final class AskingTest {
         Due.same("22: day LOW", x.taken(0, 0, LOW), -1);
         Due.same("22: no such person", x.taken(1, 0, 0), -1);
         Due.same("22: no such place", x.taken(0, HIGH, 0), -1);
+        x.term(0, 4, 3590, 100);
+        x.off(0, 4, 11, 0);
+        Due.same("22: ten days up to the last one", x.taken(0, 4, 3599), 0);
+        x.off(0, 4, 10, 0);
+        Due.same("22: one of ten", x.taken(0, 4, 3599), 1);
     }
 
     private static void promise23Why() {
@@ -314,6 +319,18 @@ public final class AskingTest {
         x.quash(0, 6, 5);
         Due.same("24: the quash", x.by(0, 5, 12), 6);
         Due.same("24: on every day", x.by(0, 5, 3599), 6);
+        TermReckoner y = one();
+        y.term(0, 1, 0, 100);
+        y.stay(0, 0, 6, 29, 30, 2);
+        y.stay(0, 2, 6, 60, 60, 2);
+        y.stay(0, 3, 6, 88, 89, 2);
+        int[] days = {28, 29, 30, 31, 59, 60, 61, 87, 88, 89, 90};
+        int[] stays = {-1, 0, 0, -1, -1, 2, -1, -1, 3, 3, -1};
+        for (int i = 0; i < days.length; i++) {
+            Due.same("24: day " + days[i] + " at a month's edge", y.by(0, 1, days[i]), stays[i]);
+        }
+        Due.same("24: just these count not", y.counted(0, 1, 99, LEAST), 95);
+        Due.same("24: on the first of a month", y.counted(0, 1, 60, LEAST), 58);
     }
 
     private static void promise25Full() {
@@ -382,6 +399,12 @@ public final class AskingTest {
         Due.same("26: none of it", z.watched(0, 0, LEAST), 0);
         z.stay(0, 2, 7, 70, 80, 2);
         Due.same("26: by credit", z.watched(0, 500, LEAST), 73);
+        TermReckoner whole = one();
+        whole.term(0, 0, 0, 3600);
+        Due.same("26: by 0 from day 0 on", whole.watched(0, 0, LEAST), 0);
+        Due.same("26: 3600 by 1", whole.watched(0, 1, LEAST), 3);
+        Due.same("26: 3600 by 999", whole.watched(0, 999, LEAST), 3596);
+        Due.same("26: 3600 by 1000", whole.watched(0, 1000, LEAST), 3599);
     }
 
     private static void promise27Open() {
@@ -434,6 +457,12 @@ public final class AskingTest {
         Due.same("28: all quashed: from day 0 on", x.over(0), 29 + 30 + 11);
         x.tear(0, 0);
         Due.same("28: a torn one tells none", x.over(0), 41);
+        TermReckoner y = one();
+        y.term(0, 0, 0, 40);
+        y.tear(0, 0);
+        y.month(0, 1, false, 30);
+        y.today(60);
+        Due.same("28: least: full is 40", y.over(0), 20);
     }
 
     private static void ringIs(TermReckoner x, String what, int... places) {
@@ -481,6 +510,12 @@ public final class AskingTest {
         ringIs(z, "29: then of the least second", 1, 5, 8);
         z.take(0, 2, 0, 8, 3, 0, 1, 1 << 8);
         ringIs(z, "29: also by take", 8);
+        TermReckoner all = one();
+        for (int place = 0; place < 11; place++) {
+            all.waits(0, (place * 5 + 3) % 12, 3, 0, 1, 1 << (place * 5 + 8) % 12);
+        }
+        Due.same("29: the twelfth", all.waits(0, 10, 3, 0, 1, 1 << 3), 4);
+        ringIs(all, "29: of all twelve", 0, 5, 10, 3, 8, 1, 6, 11, 4, 9, 2, 7);
     }
 
     private static void promise30Check() {
@@ -494,6 +529,8 @@ public final class AskingTest {
         Due.same("30: a day too few", x.check(0, 0, 0, bits & ~(1 << 25)), 25);
         Due.same("30: the first of two", x.check(0, 0, 0, bits ^ 1 << 3 ^ 1 << 25), 3);
         Due.same("30: the last day", x.check(0, 0, 0, bits ^ LOW), 31);
+        Due.same("30: the first day", x.check(0, 0, 0, bits ^ 1), 0);
+        Due.same("30: all days other", x.check(0, 0, 0, ~bits), 0);
         Due.same("30: from another day on", x.check(0, 0, 13, 0b1111111111111), -1);
         Due.same("30: from day 3599 on", x.check(0, 0, 3599, 0), -1);
         Due.same("30: day 3600 is none", x.check(0, 0, 3599, 2), 3600);

@@ -1,10 +1,18 @@
+import java.lang.reflect.Method;
+import java.lang.reflect.Modifier;
 import java.util.ArrayList;
+import java.util.Arrays;
 import java.util.List;
 import java.util.Random;
 
 /** Long runs of mixed calls, each answer compared with the Oracle's. The seeds are fixed: each time the same runs. */
 public final class RandomRunsTest {
     private static final int CALLS = 512;
+    private static final long THROWN = Long.MIN_VALUE;
+    /** Calls 3 to 15 are those that tell. */
+    private static final String[] NAMES = {"person", "today", "as", "letter", "term", "waits", "stay", "quash", "month",
+        "held", "tear", "copy", "off", "back", "grant", "recall", "kind", "begins", "ends", "counted", "taken", "why",
+        "by", "full", "watched", "open", "over", "ring", "check", "image", "take", "count"};
     private static final int[] ODD = {-1, 0, 1, 2, 3, 12, 29, 30, 31, 119, 120, 3599, 3600, 4095, 4096, -2, 400, 401,
         Integer.MAX_VALUE, Integer.MIN_VALUE, Integer.MIN_VALUE + 1, 127, 128, -128, -129, 32767, 32768, -32769};
 
@@ -21,7 +29,6 @@ public final class RandomRunsTest {
     private final TermReckoner program = new TermReckoner();
     private final Oracle oracle = new Oracle();
     private final List<String> trail = new ArrayList<>();
-    private static final int[] OPS = new int[33];
     private static final int[] ACCEPTED = new int[13];
     private static final int[] STATUSES = new int[9];
 
@@ -61,13 +68,13 @@ public final class RandomRunsTest {
         for (int i = people; i < CALLS; i++) {
             int op = nextOp();
             int[] a = arguments(op);
-            long got = ask(op, a, true);
-            long want = ask(op, a, false);
-            OPS[op]++;
+            long got = ask(program, op, a);
+            long want = ask(oracle, op, a);
             note(op, a, want);
-            trail.add(op + java.util.Arrays.toString(a) + " -> " + want);
-            if (got != want) {
-                System.out.println("seed " + seed + ", call " + i + ": op " + op + " answered " + got + ", due " + want);
+            trail.add(NAMES[op] + Arrays.toString(a) + " -> " + want);
+            if (got != want || got == THROWN) {
+                System.out.println("seed " + seed + ", call " + i + ": " + NAMES[op] + " answered " + got + ", due is "
+                        + want);
                 for (String line : trail.subList(Math.max(0, trail.size() - 40), trail.size())) {
                     System.out.println("    " + line);
                 }
@@ -87,7 +94,6 @@ public final class RandomRunsTest {
         }
     }
 
-    /** 0 person, 1 today, 2 as, 3 to 15 the calls that tell, 16 to 31 the others. */
     private int nextOp() {
         int n = random.nextInt(100);
         if (n < tellShare) {
@@ -168,7 +174,7 @@ public final class RandomRunsTest {
             case 2 -> new int[] {random.nextInt(3) == 0 ? -1 : odd(random.nextInt(oracle.count(0) + 1))};
             case 3 -> new int[] {p, q};
             case 4 -> new int[] {p, q, aDay(), aNeed()};
-            case 5 -> new int[] {p, q, odd(3 + random.nextInt(3) % 3), aDay(), aNeed(), aSet()};
+            case 5 -> new int[] {p, q, odd(3 + random.nextInt(3)), aDay(), aNeed(), aSet()};
             case 6 -> stayArguments(p, q);
             case 7 -> new int[] {p, q, aPlace()};
             case 8 -> new int[] {p, aMonth(), random.nextInt(2), odd(random.nextInt(3) == 0 ? random.nextInt(31) : 30)};
@@ -223,83 +229,33 @@ public final class RandomRunsTest {
         return all;
     }
 
-    private long ask(int op, int[] a, boolean ours) {
-        return ours ? askProgram(op, a) : askOracle(op, a);
+    /** The answer of one of the two; a boolean counts 1 or 0. */
+    private static long ask(Object x, int op, int[] a) {
+        try {
+            Method method = methodOf(x.getClass(), NAMES[op]);
+            Class<?>[] types = method.getParameterTypes();
+            Object[] arguments = new Object[types.length];
+            for (int i = 0; i < types.length; i++) {
+                if (types[i] == boolean.class) {
+                    arguments[i] = a[i] == 1;
+                } else {
+                    arguments[i] = a[i];
+                }
+            }
+            Object answer = method.invoke(x, arguments);
+            return answer instanceof Boolean yes ? (yes ? 1 : 0) : (Integer) answer;
+        } catch (ReflectiveOperationException e) {
+            e.printStackTrace(System.out);
+            return THROWN;
+        }
     }
 
-    private long askProgram(int op, int[] a) {
-        TermReckoner x = program;
-        return switch (op) {
-            case 0 -> x.person();
-            case 1 -> x.today(a[0]) ? 1 : 0;
-            case 2 -> x.as(a[0]);
-            case 3 -> x.letter(a[0], a[1]);
-            case 4 -> x.term(a[0], a[1], a[2], a[3]);
-            case 5 -> x.waits(a[0], a[1], a[2], a[3], a[4], a[5]);
-            case 6 -> x.stay(a[0], a[1], a[2], a[3], a[4], a[5]);
-            case 7 -> x.quash(a[0], a[1], a[2]);
-            case 8 -> x.month(a[0], a[1], a[2] == 1, a[3]);
-            case 9 -> x.held(a[0], a[1], a[2], a[3]);
-            case 10 -> x.tear(a[0], a[1]);
-            case 11 -> x.copy(a[0], a[1], a[2], a[3]);
-            case 12 -> x.off(a[0], a[1], a[2], a[3]);
-            case 13 -> x.back(a[0], a[1], a[2]);
-            case 14 -> x.grant(a[0], a[1]);
-            case 15 -> x.recall(a[0], a[1], a[2], a[3]);
-            case 16 -> x.kind(a[0], a[1]);
-            case 17 -> x.begins(a[0], a[1], a[2] == 1);
-            case 18 -> x.ends(a[0], a[1], a[2] == 1);
-            case 19 -> x.counted(a[0], a[1], a[2], a[3] == 1);
-            case 20 -> x.taken(a[0], a[1], a[2]);
-            case 21 -> x.why(a[0], a[1], a[2]);
-            case 22 -> x.by(a[0], a[1], a[2]);
-            case 23 -> x.full(a[0], a[1] == 1);
-            case 24 -> x.watched(a[0], a[1], a[2] == 1);
-            case 25 -> x.open(a[0], a[1]);
-            case 26 -> x.over(a[0]);
-            case 27 -> x.ring(a[0]);
-            case 28 -> x.check(a[0], a[1], a[2], a[3]);
-            case 29 -> x.image(a[0], a[1]);
-            case 30 -> x.take(a[0], a[1], a[2], a[3], a[4], a[5], a[6], a[7]);
-            default -> x.count(a[0]);
-        };
-    }
-
-    private long askOracle(int op, int[] a) {
-        Oracle x = oracle;
-        return switch (op) {
-            case 0 -> x.person();
-            case 1 -> x.today(a[0]) ? 1 : 0;
-            case 2 -> x.as(a[0]);
-            case 3 -> x.letter(a[0], a[1]);
-            case 4 -> x.term(a[0], a[1], a[2], a[3]);
-            case 5 -> x.waits(a[0], a[1], a[2], a[3], a[4], a[5]);
-            case 6 -> x.stay(a[0], a[1], a[2], a[3], a[4], a[5]);
-            case 7 -> x.quash(a[0], a[1], a[2]);
-            case 8 -> x.month(a[0], a[1], a[2] == 1, a[3]);
-            case 9 -> x.held(a[0], a[1], a[2], a[3]);
-            case 10 -> x.tear(a[0], a[1]);
-            case 11 -> x.copy(a[0], a[1], a[2], a[3]);
-            case 12 -> x.off(a[0], a[1], a[2], a[3]);
-            case 13 -> x.back(a[0], a[1], a[2]);
-            case 14 -> x.grant(a[0], a[1]);
-            case 15 -> x.recall(a[0], a[1], a[2], a[3]);
-            case 16 -> x.kind(a[0], a[1]);
-            case 17 -> x.begins(a[0], a[1], a[2] == 1);
-            case 18 -> x.ends(a[0], a[1], a[2] == 1);
-            case 19 -> x.counted(a[0], a[1], a[2], a[3] == 1);
-            case 20 -> x.taken(a[0], a[1], a[2]);
-            case 21 -> x.why(a[0], a[1], a[2]);
-            case 22 -> x.by(a[0], a[1], a[2]);
-            case 23 -> x.full(a[0], a[1] == 1);
-            case 24 -> x.watched(a[0], a[1], a[2] == 1);
-            case 25 -> x.open(a[0], a[1]);
-            case 26 -> x.over(a[0]);
-            case 27 -> x.ring(a[0]);
-            case 28 -> x.check(a[0], a[1], a[2], a[3]);
-            case 29 -> x.image(a[0], a[1]);
-            case 30 -> x.take(a[0], a[1], a[2], a[3], a[4], a[5], a[6], a[7]);
-            default -> x.count(a[0]);
-        };
+    private static Method methodOf(Class<?> type, String name) throws NoSuchMethodException {
+        for (Method method : type.getDeclaredMethods()) {
+            if (method.getName().equals(name) && (method.getModifiers() & Modifier.PRIVATE) == 0) {
+                return method;
+            }
+        }
+        throw new NoSuchMethodException(name);
     }
 }

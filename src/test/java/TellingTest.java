@@ -444,6 +444,10 @@ public final class TellingTest {
         Due.same("16: it is never watched", x.grant(0, 3599), 8);
         x.quash(0, 3, 2);
         Due.same("16: a quashed one is none", x.grant(0, 21), 0);
+        TermReckoner y = one();
+        y.term(0, 0, 0, 2000);
+        Due.same("16: half of 2000", y.grant(0, 999), 0);
+        Due.same("16: ahead of that", y.grant(0, 998), 8);
     }
 
     private static void promise17Recall() {
@@ -482,6 +486,14 @@ public final class TellingTest {
         Due.same("17: full is the day of the grant", x.recall(0, 6, 1200, 500), 8);
         x.grant(0, 1099);
         Due.same("17: full is the day behind it", x.recall(0, 6, 1100, 1), 0);
+        TermReckoner y = one();
+        y.term(0, 0, 0, 20);
+        y.tear(0, 0);
+        y.grant(0, 9);
+        y.as(0);
+        // Least: FULL is 20, 11 days from day 9 on. Most would be 41.
+        Due.same("17: least", y.recall(0, 1, 30, 1000), 0);
+        Due.same("17: eleven days", y.ends(0, 1, false), 40);
     }
 
     private static void fullLog() {
