@@ -96,6 +96,12 @@ public final class AskingTest {
         z.term(0, 0, 0, 3600);
         z.waits(0, 1, 3, 0, 1, 1);
         Due.same("19: behind 3599 is never", z.begins(0, 1, LEAST), -1);
+        TermReckoner chain = one();
+        chain.term(0, 11, 0, 1);
+        for (int place = 10; place >= 0; place--) {
+            chain.waits(0, place, 3, 0, 1, 1 << place + 1);
+        }
+        Due.same("19: behind eleven others, one behind the other", chain.begins(0, 0, LEAST), 11);
     }
 
     private static void promise19Beside() {
@@ -290,6 +296,14 @@ public final class AskingTest {
         Due.same("23: a life", x.why(0, 9, 3599), 0);
         x.tear(0, 1);
         Due.same("23: least", x.why(0, 9, 51), 0);
+        TermReckoner y = one();
+        y.term(0, 0, 0, 40);
+        y.month(0, 1, false, 30);
+        y.held(0, 1, 0, 0);
+        Due.same("23: the first of a month not held", y.why(0, 0, 30), 5);
+        y.tear(0, 0);
+        Due.same("23: least, on its end", y.why(0, 0, 40), 0);
+        Due.same("23: least, it has ended", y.why(0, 0, 41), 3);
     }
 
     private static void promise24By() {

@@ -181,6 +181,7 @@ public final class TellingTest {
         Due.same("7: through a stay goes no ring", y.waits(0, 1, 3, 0, 1, 4), 0);
         y.person();
         Due.same("7: another person's orders are others", y.waits(1, 4, 3, 0, 1, 1), 0);
+        Due.same("7: nor do they close a ring", y.waits(1, 1, 3, 0, 1, 1), 0);
         Due.same("7: nor does a term name any", y.term(0, 4, 0, 1), 0);
         Due.same("7: a chain is no ring", y.waits(0, 5, 3, 0, 1, 8 + 16), 0);
     }
