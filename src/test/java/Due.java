@@ -2,8 +2,18 @@
 final class Due {
     private static int passed = 0;
     private static int failed = 0;
+    /** What the checks that follow hold; stands ahead of what is told of them. */
+    private static String held = "";
 
     private Due() {
+    }
+
+    static void under(String what) {
+        held = what;
+    }
+
+    static int checks() {
+        return passed + failed;
     }
 
     static void same(String what, long got, long want) {
@@ -11,7 +21,7 @@ final class Due {
             passed++;
         } else {
             failed++;
-            System.out.println(what + " answered " + got + ", due is " + want);
+            System.out.println(held + what + " answered " + got + ", due is " + want);
         }
     }
 
@@ -19,9 +29,17 @@ final class Due {
         same(what, got ? 1 : 0, want ? 1 : 0);
     }
 
+    static void same(String what, String got, String want) {
+        if (got.equals(want)) {
+            passed++;
+        } else {
+            fail(what + " answered " + got + ", due is " + want);
+        }
+    }
+
     static void fail(String what) {
         failed++;
-        System.out.println(what);
+        System.out.println(held + what);
     }
 
     static void pass() {
